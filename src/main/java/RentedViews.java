@@ -50,10 +50,10 @@ public final class RentedViews {
             new Lake(), new Street(), new Fire(), new Kitchen(), new Bricks(), new Fogged()
         };
         images = new Shop[IMAGES];
-        reader = new Reader();
+        text = new byte[TEXT];
+        reader = new Reader(text);
         chooser = new Chooser();
         guesser = new Guesser();
-        text = new byte[TEXT];
         refused = new int[3];
         now = new Shop(kinds);
         draft = new Shop(kinds);
@@ -121,7 +121,7 @@ public final class RentedViews {
     }
 
     public int read() {
-        int items = reader.readInto(draft, text, textLength);
+        int items = reader.readInto(draft, textLength);
         if (items == NONE) {
             return APART - reader.start;
         }
@@ -540,7 +540,6 @@ public final class RentedViews {
             evening = 0;
             takings = 0;
             lettings = 0;
-            Arrays.fill(purse, 0);
             bringAllBack();
         }
 
@@ -808,7 +807,7 @@ public final class RentedViews {
 
     /**
      * BEST and AS THEY COME. A number told by it is SUITED times how many are suited, and the
-     * money: so the greater of two is the better letting.
+     * money, which six fees can not bring up to SUITED: so the greater of two is the better.
      */
     private static final class Chooser {
         static final int EVERYONE = (1 << MOST) - 1;
@@ -1064,17 +1063,16 @@ public final class RentedViews {
             if (pairs == 0) {
                 return NONE;
             }
-            int first = shop.book.evening;
-            int best = first;
+            int best = 0;
             int fewest = pairs + 1;
-            for (int e = first; e - first < NEXT_EVENINGS; e++) {
-                int here = mostAlike(shop, e);
+            for (int i = 0; i < NEXT_EVENINGS; i++) {
+                int here = mostAlike(shop, shop.book.evening + i);
                 if (here < fewest) {
                     fewest = here;
-                    best = e;
+                    best = i;
                 }
             }
-            return best;
+            return shop.book.evening + best;
         }
 
         private int mostAlike(Shop shop, int evening) {
@@ -1098,20 +1096,19 @@ public final class RentedViews {
 
         /** The first byte of the token that is met now, the text's length at its end: the FAULT. */
         int start;
-        private byte[] text;
+        private final byte[] text;
         private int length;
         private int behind;
         private int sort;
         private final int[] told = new int[4];
 
-        Reader() {
-            text = new byte[0];
+        Reader(byte[] text) {
+            this.text = text;
         }
 
         /** How many ITEMS; NONE: there is a FAULT, and the shop is not to be used. */
-        int readInto(Shop shop, byte[] itsText, int itsLength) {
-            text = itsText;
-            length = Math.min(itsLength, itsText.length);
+        int readInto(Shop shop, int bytes) {
+            length = Math.min(bytes, text.length);
             behind = 0;
             shop.empty();
             step();

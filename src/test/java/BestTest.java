@@ -136,6 +136,12 @@ public final class BestTest {
         // up to 30 both are suited, for 10 more than the price; above it one is
         x = shop(new int[][] {{0, 1, 5, 0}, {0, 9, 10, 0}}, new int[][] {{9, 45, 6}, {1, 30, 6}});
         Due.due(20, "two for 40 or one for 45", x.changed(0, 0), 45);
+        RentedViews y = shop(new int[][] {{3, 1, 5, 0}}, new int[][] {{9, 15, 6}});
+        Due.due(20, "as it is", y.changed(0, 0), 5);
+        y = shop(new int[][] {{0, 1, 5, 0}, {0, 1, 30, 0}}, new int[][] {{9, 30, 6}});
+        Due.due(20, "one has but one: the other brings 30 at every price", y.changed(0, 0), 0);
+        y = shop(new int[][] {{0, 1, 5, 0}, {0, 1, 30, 0}}, new int[][] {{9, 50, 6}, {9, 60, 6}});
+        Due.due(20, "the second has this one, the first the other", y.changed(0, 0), 60);
         Due.due(20, "changed(-1, 0)", x.changed(-1, 0), -2);
         Due.due(20, "changed(100, 0)", x.changed(100, 0), -2);
         Due.due(20, "changed(0, 2)", x.changed(0, 2), -2);

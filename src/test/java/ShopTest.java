@@ -151,8 +151,8 @@ public final class ShopTest {
         RentedViews x = new RentedViews();
         Due.due(8, "shop alone", Due.read(x, "shop;"), 1);
         Due.due(8, "blanks about", Due.read(x, "  shop  ;  "), 1);
-        Due.due(8, "edges", Due.read(x, "shop;view 0 1 0 0;view 5 9 99 5;renter 1 0 0;renter 9 999 6;thing 0 0;thing 1 7;thing 1 7;"), 8);
-        int[][] views = {{0, 1, 0, 0, 0, 0, -1, 1}, {5, 9, 99, 5, 5, 99, -1, 128}};
+        Due.due(8, "edges", Due.read(x, "shop;view 0 1 0 0;view 5 9 99 5;renter 1 0 0;renter 9 999 6;thing 0 0;thing 1 0;thing 1 7;thing 1 7;"), 9);
+        int[][] views = {{0, 1, 0, 0, 0, 0, -1, 1}, {5, 9, 99, 5, 5, 99, -1, 129}};
         for (int v = 0; v < 2; v++) {
             for (int what = 0; what < 8; what++) {
                 Due.due(8, "of(" + v + ", " + what + ")", x.of(v, what), views[v][what]);
@@ -220,6 +220,8 @@ public final class ShopTest {
         fault(";", 0);
         fault("Shop;", 0);
         fault("shopshop;", 0);
+        fault("chop;", 0);
+        fault("shoe;", 0);
         fault("sho", 0);
         fault("shop", 4);
         fault("shop  ", 6);

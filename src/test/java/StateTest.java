@@ -68,6 +68,31 @@ public final class StateTest {
         Due.due(33, "status(1)", x.status(1), 3);
     }
 
+    /** Each number of a VIEW, RENTER, LETTING, READING is kept, and comes back over another. */
+    private static void imageOfAll() {
+        RentedViews x = new RentedViews();
+        for (int i = 0; i < 6; i++) {
+            x.view(i, 9 - i, 10 + i, 5 - i);
+            x.renter(4 + i / 2, 900 + i, i);
+            x.things(i, 40 + i);
+            x.reading(i, 90 + i, i);
+        }
+        x.let(4, 5);
+        x.night();
+        x.let(5, 2);
+        long kept = x.digest();
+        x.image(0);
+        x.shop();
+        for (int i = 0; i < 6; i++) {
+            x.view(5 - i, 1 + i, 70 - i, i);
+            x.renter(9 - i, 800 + i, 6 - i);
+            x.reading(0, i, 0);
+        }
+        x.let(0, 0);
+        x.from(0);
+        Due.due(32, "digest()", x.digest(), kept);
+    }
+
     /** Steps back are kept by an image as they were, though they are written over later. */
     private static void imageOfManySteps() {
         RentedViews x = smallShop();
@@ -199,6 +224,7 @@ public final class StateTest {
     public static void main(String[] args) {
         part();
         images();
+        imageOfAll();
         imageOfManySteps();
         imagesKeepNoMore();
         status();
