@@ -7,11 +7,19 @@ final class Due {
     }
 
     static void due(int promise, String call, long got, long want) {
+        due("promise " + promise, call, got, want);
+    }
+
+    static void due(String test, String call, long got, long want) {
         asked++;
         if (got != want) {
             wrong++;
-            System.out.println("promise " + promise + ": " + call + " answered " + got + ", due is " + want);
+            System.out.println(test + ": " + call + " answered " + got + ", due is " + want);
         }
+    }
+
+    static int asked() {
+        return asked;
     }
 
     static void say(String fault) {
