@@ -125,6 +125,34 @@ final class BestEdges extends Edges {
         due("best(0, 2)", x.best(0, 2), 1);
     }
 
+    /** The rows of a search are used again: none of another's may be left in them. */
+    static void promise16_behindOtherQuestions() {
+        RentedViews x = someRenters(2);
+        due("how many", x.best(0, NONE), 2);
+        due("one more", x.more(0, 1, 99, 6), 1);
+        due("how many behind it", x.best(0, NONE), 2);
+        due("how much behind it", x.money(0), 20);
+        due("one more", x.more(0, 1, 99, 6), 1);
+        due("as they come behind it", x.come(0, 0), 2);
+        due("changed", x.changed(0, 0), 89);
+        due("how many behind it", x.best(0, NONE), 2);
+        due("regret behind it", x.come(0, 2), 0);
+    }
+
+    static void promise16_ofFewerThanBefore() {
+        RentedViews x = someRenters(6);
+        due("six", x.best(0, NONE), 6);
+        x.shop();
+        due("none", x.best(0, NONE), 0);
+        x.view(KITCHEN, 1, 0, 0);
+        due("a view alone", x.best(0, NONE), 0);
+        x.renter(1, 10, 6);
+        due("one", x.best(0, NONE), 1);
+        due("its view", x.best(0, 0), 0);
+        due("how much", x.money(0), 10);
+        due("as they come", x.come(0, 0), 1);
+    }
+
     static void promise16_nothingIsChangedByIt() {
         asks("best(0, 5)", Edges::full, x -> x.best(0, 5), 5);
     }
@@ -313,6 +341,15 @@ final class BestEdges extends Edges {
         asks("198 for a fire", () -> one(FIRE, 1, 0, 198), x -> x.changed(0, 0), 99);
         asks("197 for a fire", () -> one(FIRE, 1, 0, 197), x -> x.changed(0, 0), 98);
         asks("109 for a kitchen", () -> one(KITCHEN, 1, 0, 109), x -> x.changed(0, 0), 99);
+    }
+
+    static void promise20_moreRentersThanViews() {
+        int[][] lake = views(of(LAKE, 1, 50, 0));
+        asks("the last has most", () -> shop(lake, renters(of(1, 10, 6), of(1, 20, 6), of(1, 60, 6))),
+                x -> x.changed(0, 0), 60);
+        asks("the first has most", () -> shop(lake, renters(of(1, 60, 6), of(1, 20, 6), of(1, 10, 6))),
+                x -> x.changed(0, 0), 60);
+        asks("the last wants another", () -> shop(lake, renters(of(1, 10, 6), of(1, 60, 1))), x -> x.changed(0, 0), 10);
     }
 
     static void promise20_ofLikeOnesTheLeast() {

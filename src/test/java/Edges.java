@@ -64,10 +64,11 @@ abstract class Edges {
         }
     }
 
-    /** The call is answered so on a new shop, and nothing is changed by it, STATUS neither. */
+    /** The call is answered so on a new shop, again too, and nothing is changed by it, STATUS neither. */
     static void asks(String call, Maker shop, Call made, long want) {
         RentedViews x = shop.make();
         due(call, made.on(x), want);
+        due(call + " again", made.on(x), want);
         like("all behind " + call, x, shop.make());
     }
 
@@ -181,7 +182,7 @@ abstract class Edges {
     static RentedViews full() {
         RentedViews x = new RentedViews();
         for (int i = 0; i < 6; i++) {
-            x.view(i, 1, 10 + i, i);
+            x.view(i, 9 - i, 10 + i, i);
             x.renter(9, 900 + i, 6);
             x.things(i, 255);
             x.reading(i, 99, i);

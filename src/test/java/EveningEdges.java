@@ -168,6 +168,16 @@ final class EveningEdges extends Edges {
         due("left(0, 0, 1)", x.left(0, 0, 1), 100);
     }
 
+    static void promise10_anObjectIsUsedFor512Calls() {
+        RentedViews x = new RentedViews();
+        x.view(STREET, 1, 0, 1);
+        for (int e = 1; e <= 509; e++) {
+            due("night()", x.night(), e);
+        }
+        due("of(0, 4), the 511th", x.of(0, 4), 5);
+        due("look(0), the 512th", x.look(0), 510);
+    }
+
     static void promise10_allViewsComeBackBothAreFree() {
         RentedViews x = full();
         x.night();

@@ -368,7 +368,8 @@ final class SeenEdges extends Edges {
 
     /** The first of a seed, which is drawn: it comes if that is less than w. */
     static void promise29_lessThanWOneComes() {
-        int[][] seeds = {{0, 0}, {1, 38}, {5, 55}, {37975, 99}, {388515, 0}, {518020, 67}, {999998, 90}, {999999, 28}};
+        int[][] seeds = {{0, 0}, {1, 38}, {5, 55}, {37975, 99}, {42627, 13}, {47902, 30}, {388515, 0},
+            {518020, 67}, {999998, 90}, {999999, 28}};
         for (int[] s : seeds) {
             asks("as much", () -> oneView(0, 1), x -> x.drawn(s[0], 1, s[1]), 0);
             asks("1 more", () -> oneView(0, 1), x -> x.drawn(s[0], 1, s[1] + 1), 1);

@@ -303,13 +303,36 @@ final class StateEdges extends Edges {
     /** What is above 9223372036854775807 goes around. */
     static void promise35_ofAFullShop() {
         asks("digest()", Edges::full, x -> x.digest(), digestOf(6, 6, 1, 180, 6, 12, 6, 8, 150,
-                0, 1, 10, 0, 1, 255, 1, 1, 11, 1, 2, 255, 2, 1, 12, 2, 3, 255,
-                3, 1, 13, 3, 4, 255, 4, 1, 14, 4, 5, 255, 5, 1, 15, 5, 0, 255,
+                0, 9, 10, 0, 1, 255, 1, 8, 11, 1, 2, 255, 2, 7, 12, 2, 3, 255,
+                3, 6, 13, 3, 4, 255, 4, 5, 14, 4, 5, 255, 5, 4, 15, 5, 0, 255,
                 9, 875, 6, 9, 880, 6, 9, 867, 6, 9, 856, 6, 9, 874, 6, 9, 883, 6,
                 0, 0, 0, 1, 1, 0, 2, 2, 0, 3, 3, 0, 4, 4, 0, 5, 5, 0,
                 0, 1, 1, 1, 2, 1, 2, 3, 1, 3, 4, 1, 4, 5, 1, 5, 0, 1,
                 0, 99, 0, 1, 99, 1, 2, 99, 2, 3, 99, 3, 4, 99, 4, 5, 99, 5,
                 (int) full().part(0), (int) full().part(1)));
+    }
+
+    static void promise35_moreViewsThanRentersAndLess() {
+        asks("two views", () -> shop(views(of(1, 2, 3, 4), of(2, 3, 4, 5)), renters(of(6, 7, 6))), x -> x.digest(),
+                digestOf(2, 1, 0, 0, 0, 0, 0, 0, 0, 1, 2, 3, 4, -1, 0, 2, 3, 4, 5, -1, 0, 6, 7, 6, 0, 1));
+        asks("two renters", () -> shop(views(of(1, 2, 3, 4)), renters(of(6, 7, 6), of(5, 4, 3))), x -> x.digest(),
+                digestOf(1, 2, 0, 0, 0, 0, 0, 0, 0, 1, 2, 3, 4, -1, 0, 6, 7, 6, 5, 4, 3, 0, 1));
+    }
+
+    /** The last twelve of fourteen lettings, each in another evening. */
+    static void promise35_ofHistoryTheLast12() {
+        asks("digest()", () -> {
+            RentedViews x = shop(views(of(0, 1, 0, 0), of(0, 1, 0, 0)), renters(of(1, 0, 6), of(1, 0, 6), of(1, 0, 6)));
+            for (int i = 0; i < 14; i++) {
+                x.let(i % 2, i % 3);
+                x.night();
+            }
+            return x;
+        }, x -> x.digest(), digestOf(2, 3, 14, 0, 0, 12, 0, 8, 0,
+                0, 1, 0, 0, -1, 0, 0, 1, 0, 0, -1, 0, 1, 0, 6, 1, 0, 6, 1, 0, 6,
+                0, 2, 2, 1, 0, 3, 0, 1, 4, 1, 2, 5, 0, 0, 6, 1, 1, 7,
+                0, 2, 8, 1, 0, 9, 0, 1, 10, 1, 2, 11, 0, 0, 12, 1, 1, 13,
+                0, 1));
     }
 
     static void promise35_nothingIsChangedByIt() {

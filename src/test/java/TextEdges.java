@@ -396,6 +396,18 @@ final class TextEdges extends Edges {
         like("behind a fault", x, y);
     }
 
+    static void promise08_aFaultBehindAReadLeavesWhatWasRead() {
+        RentedViews x = readOf("shop;view 0 1 5 0;renter 1 9 6;");
+        RentedViews y = readOf("shop;view 0 1 5 0;renter 1 9 6;");
+        x.let(0, 0);
+        y.let(0, 0);
+        due("read()", Due.read(x, "shop;view 2 2 2 2;view 2 2 2 2;shop;"), -41);
+        due("read() of less", Due.read(x, "shop;?"), -15);
+        y.clear();
+        Due.type(y, "shop;?");
+        like("what was read", x, y);
+    }
+
     static void promise08_whatWasReadIsUsedAndReadAnew() {
         RentedViews x = readOf("shop;view 0 1 5 0;renter 1 9 6;");
         due("let(0, 0)", x.let(0, 0), 5);
