@@ -32,32 +32,24 @@ public final class RentedViews {
     private static final int LAST_DRAWN = 30;
     private static final int SURE = 100;
 
-    private final Lake[] kinds;
     private final Shop[] images;
     private final Reader reader;
     private final Chooser chooser;
     private final Guesser guesser;
-    private final byte[] text;
     private final int[] refused;
     private Shop now;
     private Shop draft;
-    private int textLength;
     private long above;
     private long below;
 
     public RentedViews() {
-        kinds = new Lake[] {
-            new Lake(), new Street(), new Fire(), new Kitchen(), new Bricks(), new Fogged()
-        };
         images = new Shop[IMAGES];
-        text = new byte[TEXT];
-        reader = new Reader(text);
+        reader = new Reader();
         chooser = new Chooser();
         guesser = new Guesser();
         refused = new int[3];
-        now = new Shop(kinds);
-        draft = new Shop(kinds);
-        textLength = 0;
+        now = new Shop();
+        draft = new Shop();
         above = 0;
         below = 1;
     }
@@ -106,22 +98,21 @@ public final class RentedViews {
         if (!within(c, 0, 127)) {
             return refuse(BAD);
         }
-        if (textLength >= TEXT) {
+        if (reader.length >= TEXT) {
             return refuse(FULL);
         }
-        text[textLength] = (byte) c;
-        textLength++;
-        return textLength;
+        reader.add((byte) c);
+        return reader.length;
     }
 
     public int clear() {
-        int had = textLength;
-        textLength = 0;
+        int had = reader.length;
+        reader.length = 0;
         return had;
     }
 
     public int read() {
-        int items = reader.readInto(draft, textLength);
+        int items = reader.readInto(draft);
         if (items == NONE) {
             return APART - reader.start;
         }
@@ -357,7 +348,7 @@ public final class RentedViews {
             return refuse(BAD);
         }
         if (images[i] == null) {
-            images[i] = new Shop(kinds);
+            images[i] = new Shop();
         }
         images[i].copyFrom(now);
         return 1;
@@ -392,7 +383,7 @@ public final class RentedViews {
             case 5: return now.book.lettings;
             case 6: return now.readings;
             case 7: return now.undos;
-            case 8: return textLength;
+            case 8: return reader.length;
             default: return refuse(BAD);
         }
     }
@@ -619,7 +610,9 @@ public final class RentedViews {
 
     /** All that an IMAGE keeps. */
     private static final class Shop {
-        final Lake[] kinds;
+        final Lake[] kinds = {
+            new Lake(), new Street(), new Fire(), new Kitchen(), new Bricks(), new Fogged()
+        };
         int views;
         int renters;
         int readings;
@@ -637,8 +630,7 @@ public final class RentedViews {
         final Book book = new Book();
         final Book[] past = new Book[UNDOS];
 
-        Shop(Lake[] kinds) {
-            this.kinds = kinds;
+        Shop() {
             for (int i = 0; i < UNDOS; i++) {
                 past[i] = new Book();
             }
@@ -1089,26 +1081,26 @@ public final class RentedViews {
         }
     }
 
-    /** Reads THE TEXT, token by token. */
+    /** THE TEXT, and how it is read, token by token. */
     private static final class Reader {
         private static final int END = 0, WORD = 1, NUMBER = 2, MARK = 3, OTHER = 4;
         private static final int FIGURES = 3;
 
         /** The first byte of the token that is met now, the text's length at its end: the FAULT. */
         int start;
-        private final byte[] text;
-        private int length;
+        int length;
+        private final byte[] text = new byte[TEXT];
         private int behind;
         private int sort;
         private final int[] told = new int[4];
 
-        Reader(byte[] text) {
-            this.text = text;
+        void add(byte c) {
+            text[length] = c;
+            length++;
         }
 
         /** How many ITEMS; NONE: there is a FAULT, and the shop is not to be used. */
-        int readInto(Shop shop, int bytes) {
-            length = Math.min(bytes, text.length);
+        int readInto(Shop shop) {
             behind = 0;
             shop.empty();
             step();
