@@ -2,14 +2,18 @@ import java.util.Random;
 
 /** Runs of calls drawn by a seed, answered by the class and by the Oracle alike. */
 public final class OracleTest {
-    private static final int RUNS = 1200;
-    private static final int CALLS = 500;
+    private static final int RUNS = 2600;
+    /** An object is used for 512 calls at most. */
+    private static final int CALLS = 512;
+    /** What every run ends with: digest and the three of STATUS. */
+    private static final int LAST_CALLS = 4;
     private static final String[] WORDS = {"shop", "view", "renter", "thing", "views", "a"};
 
     private final Random random;
     private final int run;
     private final RentedViews x = new RentedViews();
     private final Oracle o = new Oracle();
+    private int calls = 0;
 
     private OracleTest(int run) {
         this.run = run;
@@ -48,7 +52,9 @@ public final class OracleTest {
         return random.nextInt(3) == 0 ? n(0, 999) : n(0, 120);
     }
 
+    /** Each call of the object is asked through here, and so counted. */
     private void due(String call, long got, long want) {
+        calls++;
         Due.due(0, "run " + run + ": " + call, got, want);
     }
 
@@ -96,8 +102,15 @@ public final class OracleTest {
         return all.toString();
     }
 
+    private boolean hasRoomFor(int more) {
+        return calls + more + LAST_CALLS <= CALLS;
+    }
+
     private void readAText() {
         String text = text();
+        if (!hasRoomFor(text.length() + 2)) {
+            return;
+        }
         due("clear", x.clear(), o.clear());
         for (int i = 0; i < text.length(); i++) {
             due("type", x.type(text.charAt(i)), o.type(text.charAt(i)));
@@ -173,7 +186,7 @@ public final class OracleTest {
     }
 
     private void go() {
-        for (int call = 0; call < CALLS; call++) {
+        while (hasRoomFor(2)) {
             int dice = random.nextInt(100);
             if (dice < 12) {
                 fill();

@@ -47,7 +47,7 @@ public final class RulesTest {
             if (line.matches("( {4}| {8})[a-zA-Z].*\\{") && !line.contains(" class ")) {
                 from = i;
             } else if (line.matches(" {4}\\}| {8}\\}") && from >= 0) {
-                Due.due(11, "lines from " + (from + 1), Math.max(i - from + 1, 60), 60);
+                Due.due("rule 11", "lines from " + (from + 1), Math.max(i - from + 1, 60), 60);
                 from = -1;
             }
         }
@@ -56,26 +56,26 @@ public final class RulesTest {
     private static void classes() {
         List<Class<?>> all = new ArrayList<>(List.of(RentedViews.class.getDeclaredClasses()));
         for (Class<?> inner : all) {
-            Due.due(2, inner + " is static", inner.getModifiers() & Modifier.STATIC, Modifier.STATIC);
+            Due.due("rule 2", inner + " is static", inner.getModifiers() & Modifier.STATIC, Modifier.STATIC);
         }
         all.add(RentedViews.class);
-        Due.due(11, "classes", Math.max(all.size(), 12), 12);
+        Due.due("rule 11", "classes", Math.max(all.size(), 12), 12);
         for (Class<?> c : all) {
             int fields = 0;
             for (Field f : c.getDeclaredFields()) {
                 if (Modifier.isStatic(f.getModifiers())) {
-                    Due.due(5, f + " is final", f.getModifiers() & Modifier.FINAL, Modifier.FINAL);
-                    Due.due(5, f + " is a constant", NUMBERS.contains(f.getType()) ? 1 : 0, 1);
+                    Due.due("rule 5", f + " is final", f.getModifiers() & Modifier.FINAL, Modifier.FINAL);
+                    Due.due("rule 5", f + " is a constant", NUMBERS.contains(f.getType()) ? 1 : 0, 1);
                 } else {
                     fields++;
                 }
             }
-            Due.due(11, "fields of " + c, Math.max(fields, 20), 20);
+            Due.due("rule 11", "fields of " + c, Math.max(fields, 20), 20);
             for (Method m : c.getDeclaredMethods()) {
-                Due.due(11, "parameters of " + m, Math.max(m.getParameterCount(), 7), 7);
+                Due.due("rule 11", "parameters of " + m, Math.max(m.getParameterCount(), 7), 7);
             }
             for (Constructor<?> k : c.getDeclaredConstructors()) {
-                Due.due(11, "parameters of " + k, Math.max(k.getParameterCount(), 7), 7);
+                Due.due("rule 11", "parameters of " + k, Math.max(k.getParameterCount(), 7), 7);
             }
         }
     }
@@ -83,7 +83,7 @@ public final class RulesTest {
     public static void main(String[] args) throws IOException {
         Path path = Path.of("src/main/java/RentedViews.java");
         String source = Files.readString(path);
-        Due.due(3, "signs of ASCII alone", source.chars().allMatch(c -> c == '\n' || c >= 32 && c < 127) ? 1 : 0, 1);
+        Due.due("rule 3", "signs of ASCII alone", source.chars().allMatch(c -> c == '\n' || c >= 32 && c < 127) ? 1 : 0, 1);
         words(source.replaceAll("(?s)/\\*.*?\\*/|//[^\n]*", "").replaceAll("\"[^\"\n]*\"", "\"\""));
         lengths(Files.readAllLines(path));
         classes();
